@@ -609,11 +609,7 @@ public final class DriftPages {
             return refused(GONE);
         }
         view.show(table, version);
-        if (going.stands) {
-            view.chooseBeside(going.key, going.size, onward);
-        } else {
-            view.chooseFrom(0, onward ? going.size : 0);
-        }
+        view.chooseBeside(going.key, going.size, onward);
         going.take(view, onward, table.acts.version);
         return answered(view.end - view.first);
     }
@@ -1485,14 +1481,13 @@ public final class DriftPages {
         }
     }
 
-    /** One who goes through the rows, and what was seen on the way. */
+    /** One who goes through the rows, and what was seen on the way; the empty key, below all, stands ahead of them. */
     private static final class Reader {
         private final int[] sights;
         private final int[] sightings;
         private final Bytes key;
         private boolean begun;
         private boolean stable;
-        private boolean stands;
         private boolean ended;
         private int size;
         private int version;
@@ -1504,7 +1499,6 @@ public final class DriftPages {
             key = new Bytes(KEY_ROOM);
             begun = false;
             stable = false;
-            stands = false;
             ended = false;
             size = 0;
             version = 0;
@@ -1514,7 +1508,6 @@ public final class DriftPages {
         void start(int pageSize, boolean isStable, int now) {
             begun = true;
             stable = isStable;
-            stands = false;
             ended = false;
             size = pageSize;
             version = now;
@@ -1537,7 +1530,6 @@ public final class DriftPages {
                 Bytes reached = view.keyPassing(onward ? view.end - 1 : view.first);
                 key.empty();
                 key.append(reached, 0, reached.count);
-                stands = true;
                 ended = false;
             } else if (onward) {
                 ended = true;

@@ -407,6 +407,15 @@ public final class PromisesTest {
         due.is("previous of it", Due.previous(x, Due.checked(84, 0, 9, 0, 0, 1, 128, 2)), 1);
         due.is("next of a longer KEY", Due.next(x, Due.checked(84, 0, 9, 0, 0, 1, 128, 2, 0, 1, 0)), 1);
         due.is("previous of it", Due.previous(x, Due.checked(84, 0, 9, 0, 0, 1, 128, 2, 0, 1, 0)), 2);
+        int[] ofAll = Due.checked(84, 0, 9, 0, 0, 0, 0);
+        due.is("next of a KEY ahead of all", Due.next(x, ofAll), 3);
+        due.is("previous of it", Due.previous(x, ofAll), 0);
+        tokenIs(x, 1, ofAll);
+        due.is("beyond(0)", x.beyond(0), 0);
+        due.is("beyond(1)", x.beyond(1), 3);
+        x.seek(9, 4);
+        due.is("tokenSize(0) of an empty one, by none", x.tokenSize(0), 0);
+        due.is("beyond(1)", x.beyond(1), 0);
         int[] head = {84, 0, 9, 0, 0, 1, 255};
         int[] longest = Due.checked(java.util.Arrays.copyOf(head, 899));
         due.is("next of the longest TOKEN", Due.next(x, longest), 0);
@@ -507,15 +516,16 @@ public final class PromisesTest {
         x.on(0);
         begins(x, 0, 0, false, 2);
         due.is("account(0, 6)", x.account(0, 6), 2);
-        begins(x, 0, 3, false, 0);
+        begins(x, 0, 4, false, 0);
         due.is("account(0, 6) anew", x.account(0, 6), 0);
         due.is("seen(0, 4) anew", x.seen(0, 4), 0);
-        due.answered(x, "on(0) anew", x.on(0), 3);
+        due.answered(x, "back(0) anew", x.back(0), 0);
+        due.answered(x, "on(0) anew", x.on(0), 4);
         due.is("seen(0, 4)", x.seen(0, 4), 1);
     }
 
     private static void begins(DriftPages x, int reader, int size, boolean stable, int trouble) {
-        due.is("begin(" + reader + ", " + size + ")", x.begin(reader, size, stable) ? 0 : x.trouble(), trouble);
+        due.is("begin(" + reader + ", " + size + ")", x.begin(reader, size, stable) ? 1 : 0, trouble == 0 ? 1 : 0);
         due.is("trouble()", x.trouble(), trouble);
     }
 
